@@ -29,6 +29,11 @@ public final class ListsTest {
         check.due("38: shorter", x.get(3, 5), NO_VALUE);
         check.due("38: longer", x.list(3, 20), 1);
         check.due("38: all 0", x.get(3, 19), 0);
+        x.set(3, 0, 6);
+        x.set(3, 1, 6);
+        x.list(3, 2);
+        check.due("38: the first is 0", x.get(3, 0), 0);
+        check.due("38: the second is 0", x.get(3, 1), 0);
     }
 
     private static void setAndGet() {

@@ -95,6 +95,10 @@ public final class MindTest {
         x.turn(0, 3);
         x.turn(0, 1);
         check.due("19: the 203rd is too late", x.flat(), -5);
+        Check.law(x, "s66(x67(i,b))");
+        check.due("19: the 201st is too late", x.flat(), -5);
+        Check.law(x, "s67(x67(i,b))");
+        check.due("19: the 200th, told otherwise", x.flat(), 200);
         x = Check.loom("abcdS;abcdS", "c1(b,h)");
         x.turn(0, 3);
         for (int i = 0; i < 49; i++) {

@@ -22,6 +22,7 @@ public final class ModelTest {
             oneRun(calls, run);
         }
         faults();
+        drafts();
         check.end();
     }
 
@@ -186,6 +187,37 @@ public final class ModelTest {
             if (text.length() <= 80) {
                 text(x, y, text, false, i);
             }
+        }
+    }
+
+    /** Cards of few colours, with pictures that a walk over their holes has made: many ways weave them. */
+    private static void drafts() {
+        for (int i = 0; i < 2000; i++) {
+            CardLoom x = new CardLoom();
+            Model y = new Model();
+            int colours = 2 + any(2);
+            String card = "";
+            for (int hole = 0; hole < 4; hole++) {
+                card += (char) ('a' + any(colours));
+            }
+            text(x, y, card + "S", true, i);
+            int lines = 1 + any(7);
+            int place = any(4);
+            check.due("lines", x.lines(lines), y.lines(lines));
+            for (int line = 0; line < lines; line++) {
+                place = any(3) == 0 ? place : (place + 1 + 2 * any(2)) % 4;
+                int colour = any(30) == 0 ? any(colours) : card.charAt(place) - 'a';
+                check.due("paint", x.paint(line, 0, colour), y.paint(line, 0, colour));
+            }
+            for (int top = 0; top < 4; top++) {
+                check.due("place", x.place(0, top), y.place(0, top));
+                check.due("fewest of " + card, x.fewest(0), y.fewest(0));
+                for (int line = 0; line < lines; line++) {
+                    check.due("draft of " + card + " line " + line, x.draft(line, 0), y.draft(line, 0));
+                }
+            }
+            check.due("weaveDraft", x.weaveDraft(), y.weaveDraft());
+            check.due("matches", x.matches(0), y.matches(0));
         }
     }
 

@@ -92,14 +92,7 @@ public final class PicksTest {
         check.due("10: forward at 98", x.turn(0, 1), 50);
         x.unweave(1);
         check.due("11: the other one alone", x.pack(2, 2), 50);
-        CardLoom y = Check.loom("abcdS;abcdS", "c1(f,b)");
-        x = Check.loom("abcdS", "b");
-        x.weave(50);
-        x.unweave(1);
-        x.image();
-        check.due("10: 49 back", x.card(0, 6), 51);
-        y.weave(50);
-        check.due("told(3)", y.told(3), 100);
+        check.due("11: 98 and 50 less", x.told(3), 98 + 50);
     }
 
     private static void unweave() {

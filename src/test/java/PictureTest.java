@@ -111,6 +111,10 @@ public final class PictureTest {
         x.place(0, 1);
         picture(x, "a", "a", "b");
         check.same("24: forward ahead of back in the first pick", drafted(x, 0), "1 0 1");
+        x = Check.loom("aacbS", "i");
+        x.place(0, 1);
+        picture(x, "a", "a", "b");
+        check.same("24: back ahead of idle in the first pick", drafted(x, 0), "2 0 2");
     }
 
     private static void fewest() {
