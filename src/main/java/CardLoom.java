@@ -767,20 +767,21 @@ public final class CardLoom {
             return fault;
         }
 
+        /** Within the most that may be open no text goes on with an opener: its ( would be one too many. */
         private int term(int open) {
             char letter = (char) Math.max(0, next());
             if (isLeaf(letter)) {
                 at++;
                 return law.addLeaf(letter);
             }
-            if (!hasNumber(letter) && !isPlain(letter)) {
+            if (open >= MAX_OPEN || !isOpener(letter)) {
                 fail(at);
                 return NONE;
             }
             at++;
             int number = hasNumber(letter) ? number(letter) : 0;
             int node = law.add(letter, number);
-            openUp(open);
+            expect('(');
             int first = fault == SOUND ? term(open + 1) : NONE;
             int second = NONE;
             if (isPair(letter)) {
@@ -790,13 +791,6 @@ public final class CardLoom {
             expect(')');
             law.join(node, first, second);
             return node;
-        }
-
-        private void openUp(int open) {
-            if (open >= MAX_OPEN) {
-                fail(at);
-            }
-            expect('(');
         }
 
         private int number(char letter) {
@@ -843,8 +837,9 @@ public final class CardLoom {
             return letter == 'k' || letter == 'c' || letter == 'x' || letter == 's';
         }
 
-        private static boolean isPlain(char letter) {
-            return letter == 'd' || letter == 'r' || letter == 'm' || letter == 't';
+        /** A letter that wants a ( behind it, or behind its number. */
+        private static boolean isOpener(char letter) {
+            return hasNumber(letter) || letter == 'd' || letter == 'r' || letter == 'm' || letter == 't';
         }
 
         private static boolean isPair(char letter) {

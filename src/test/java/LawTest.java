@@ -158,11 +158,17 @@ public final class LawTest {
 
     private static void depth() {
         CardLoom x = Check.loom(FOUR, "c1(f,b)");
-        fault(x, "r(r(r(r(r(r(r(f)))))))", 13);
-        fault(x, "r(r(r(r(r(r(r", 13);
-        fault(x, "r(r(r(r(r(r(k1(f,b)))))))", 14);
-        fault(x, "r(r(r(r(r(r(k0(f,b)))))))", 13);
-        fault(x, "t(f,r(r(r(r(r(r(f)))))))", 15);
+        fault(x, "r(r(r(r(r(r(r(f)))))))", 12);
+        fault(x, "r(r(r(r(r(r(r", 12);
+        fault(x, "r(r(r(r(r(r(", 12);
+        for (String opener : new String[] {"k1(f,b)", "k0(f,b)", "k", "c1(f,b)", "x1(f,b)", "x0", "s1(f)", "s(f)", "d(f)",
+            "r(f)", "m(f)", "t(f,b)", "q"}) {
+            fault(x, "r(r(r(r(r(r(" + opener + "))))))", 12);
+            fault(x, "t(f,t(f,t(f,t(f,t(f,t(f," + opener + "))))))", 24);
+        }
+        fault(x, "t(f,r(r(r(r(r(r(f)))))))", 14);
+        fault(x, "r(r(r(r(r(k0(f,b))))))", 11);
+        fault(x, "r(r(r(r(r(k1f", 12);
         fault(x, "r(r(r(r(r(r(f)))))", 18);
         check.due("5: six are fine", Check.law(x, "r(r(r(r(r(r(f))))))"), 1);
         check.same("5: six times reversed", Check.next(x), "1111");

@@ -135,6 +135,9 @@ public final class Model {
                 continue;
             }
             if (next == 'L') {
+                if (open == 6 && "ifbh".indexOf(is) < 0) {
+                    return at;
+                }
                 switch (is) {
                     case 'i', 'f', 'b', 'h' -> { }
                     case 'k', 'x' -> due.append(")L,L(G");
@@ -146,7 +149,7 @@ public final class Model {
                         return at;
                     }
                 }
-            } else if (is != next || is == '(' && open == 6) {
+            } else if (is != next) {
                 return at;
             }
             open += is == '(' ? 1 : is == ')' ? -1 : 0;
