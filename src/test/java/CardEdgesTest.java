@@ -20,8 +20,8 @@ public final class CardEdgesTest {
 
     /** 6: "CARDS are 0 .. as many as are THREADED (10 at most; none at first)". */
     private static void cardsThreaded() {
-        CardLoom x = new CardLoom();
         for (int cards = 0; cards <= 10; cards++) {
+            CardLoom x = new CardLoom();
             if (cards > 0) {
                 Check.thread(x, TEN.substring(0, 6 * cards - 1));
             }

@@ -129,14 +129,14 @@ public final class LawTest {
         check.same("5: the next pick has the number PICKS", Check.next(x), "2222");
     }
 
-    private static void fault(CardLoom x, String law, int place) {
+    private static void fault(String law, int place) {
+        CardLoom x = Check.loom(FOUR, "c1(f,b)");
         check.due("5: '" + law + "'", Check.law(x, law), -100 - place);
         check.due("5: the tape is empty", x.told(6), 0);
         check.same("5: the law stays", Check.next(x), "1222");
     }
 
     private static void faults() {
-        CardLoom x = Check.loom(FOUR, "c1(f,b)");
         String[] texts = {"", "q", "F", "ff", "f)", "k", "k0(f,b)", "k00(f,b)", "k(f,b)", "k100(f,b)", "k1f", "k1(",
             "k1(f", "k1(f,", "k1(f,b", "k1(f;b)", "k1(f)", "k1(f,b,f)", "k1(f,b)f", "x0(f,b)", "x00", "x(f,b)",
             "c(f,b)", "c100(f,b)", "s(f)", "s100(f)", "s1(f,b)", "d1(f)", "d(f,b)", "d()", "r", "r(", "r(f", "m[f)",
@@ -149,27 +149,27 @@ public final class LawTest {
             5, 2, 3, 1, 4, 0, 0};
         check.due("as many faults as texts", faults.length, texts.length);
         for (int i = 0; i < texts.length; i++) {
-            fault(x, texts[i], faults[i]);
+            fault(texts[i], faults[i]);
         }
-        check.due("5: a 0 ahead", Check.law(x, "k01(f,b)"), 2);
-        check.due("5: c00", Check.law(x, "c00(f,b)"), 2);
-        check.due("5: s00", Check.law(x, "s00(f)"), 1);
+        check.due("5: a 0 ahead", Check.law(new CardLoom(), "k01(f,b)"), 2);
+        check.due("5: c00", Check.law(new CardLoom(), "c00(f,b)"), 2);
+        check.due("5: s00", Check.law(new CardLoom(), "s00(f)"), 1);
     }
 
     private static void depth() {
-        CardLoom x = Check.loom(FOUR, "c1(f,b)");
-        fault(x, "r(r(r(r(r(r(r(f)))))))", 12);
-        fault(x, "r(r(r(r(r(r(r", 12);
-        fault(x, "r(r(r(r(r(r(", 12);
+        fault("r(r(r(r(r(r(r(f)))))))", 12);
+        fault("r(r(r(r(r(r(r", 12);
+        fault("r(r(r(r(r(r(", 12);
         for (String opener : new String[] {"k1(f,b)", "k0(f,b)", "k", "c1(f,b)", "x1(f,b)", "x0", "s1(f)", "s(f)", "d(f)",
             "r(f)", "m(f)", "t(f,b)", "q"}) {
-            fault(x, "r(r(r(r(r(r(" + opener + "))))))", 12);
-            fault(x, "t(f,t(f,t(f,t(f,t(f,t(f," + opener + "))))))", 24);
+            fault("r(r(r(r(r(r(" + opener + "))))))", 12);
+            fault("t(f,t(f,t(f,t(f,t(f,t(f," + opener + "))))))", 24);
         }
-        fault(x, "t(f,r(r(r(r(r(r(f)))))))", 14);
-        fault(x, "r(r(r(r(r(k0(f,b))))))", 11);
-        fault(x, "r(r(r(r(r(k1f", 12);
-        fault(x, "r(r(r(r(r(r(f)))))", 18);
+        fault("t(f,r(r(r(r(r(r(f)))))))", 14);
+        fault("r(r(r(r(r(k0(f,b))))))", 11);
+        fault("r(r(r(r(r(k1f", 12);
+        fault("r(r(r(r(r(r(f)))))", 18);
+        CardLoom x = Check.loom(FOUR, "c1(f,b)");
         check.due("5: six are fine", Check.law(x, "r(r(r(r(r(r(f))))))"), 1);
         check.same("5: six times reversed", Check.next(x), "1111");
         check.due("5: side by side", Check.law(x, "t(t(t(t(t(t(i,i),i),i),i),i),t(t(t(t(t(i,i),i),i),i),b))"), 12);

@@ -393,7 +393,13 @@ public final class ListEdgesTest {
                 check.due("31: of the next one", x.colours(was, 0), was == 10 ? BAD : 0);
                 x.list(0, 20);
                 check.due("41: all of them", x.lay(0, 0, 1), was);
+                check.due("35: spelled", x.spell(), 6 * was - 1);
+                x.lines(1);
+                check.due("24: none behind it", x.draft(0, was), NONE);
+                check.due("8: none behind it", x.place(was, 0), NONE);
                 check.due("11: all of them", x.pack((1 << was) - 1, 1), 3);
+                check.due("37: twists of all", x.told(3), was);
+                check.due("21: the set of all", x.undoing(0, 0), (1 << was) - 1);
             }
         }
     }

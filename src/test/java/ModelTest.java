@@ -45,7 +45,7 @@ public final class ModelTest {
                 left -= text(x, y, law(deep ? 5 : 2), false, run);
             } else if (kind == 2 && left > 12) {
                 left -= paintWell(x, y, run);
-            } else if (kind < 6) {
+            } else if (kind < 6 && left > 9) {
                 left -= weaveMuch(x, y, run);
             } else {
                 Method call = calls.get(any(calls.size()));
@@ -124,7 +124,7 @@ public final class ModelTest {
         for (int what = 0; what < 8; what++) {
             check.due("run " + run + " told " + what, x.told(what), y.told(what));
         }
-        return 1;
+        return 9;
     }
 
     private static String threading() {
